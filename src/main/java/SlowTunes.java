@@ -9,10 +9,15 @@ public final class SlowTunes {
     private static final int MOST_SHIFT = 12;
     private static final int MOST_BOUND = 20;
     private static final int MOST_PRICE = 50;
-    private static final int MOST_JUDGE = 3;
     private static final int MOST_SAVED = 6;
     private static final int MOST_COUNTED = 1000000;
     private static final int MOST_PAIRS = 2 * MOST_NOTES - 1;
+
+    private static final int PLAIN = 0;
+    private static final int STRICT = 1;
+    private static final int OF_OCTAVES = 2;
+    private static final int KIND = 3;
+    private static final int OCTAVE = 12;
 
     private static final int MOST_CODES = 60;
     private static final int LEAST_CODE = 33;
@@ -140,7 +145,7 @@ public final class SlowTunes {
     }
 
     public int setJudge(int judge) throws IllegalArgumentException {
-        checkRange(judge, 0, MOST_JUDGE);
+        checkRange(judge, 0, KIND);
         saveState();
         int before = now.teller;
         now.teller = judge;
@@ -655,7 +660,7 @@ public final class SlowTunes {
         FLIP("flip", true, false, 0, 0),
         BOUND("bound", false, true, 0, MOST_BOUND),
         HOLD("hold", false, true, 0, MOST_PRICE),
-        JUDGE("judge", false, true, 0, MOST_JUDGE);
+        JUDGE("judge", false, true, 0, KIND);
 
         private final String letters;
         private final boolean hasTune;
@@ -672,7 +677,7 @@ public final class SlowTunes {
         }
 
         int letterAt(int index) {
-            return index < 0 || index >= letters.length() ? NOTHING : letters.charAt(index);
+            return index >= 0 && index < letters.length() ? (int) letters.charAt(index) : NOTHING;
         }
     }
 
@@ -820,7 +825,7 @@ public final class SlowTunes {
         private Tune one = new Tune();
         private int farthest = MOST_BOUND;
         private int price = 1;
-        private int teller = 0;
+        private int teller = PLAIN;
         private int stopReason = POSSIBLE;
         private int stopPart = 0;
 
@@ -869,17 +874,18 @@ public final class SlowTunes {
         }
 
         int judged(int apart) {
-            int d = Math.abs(apart);
-            switch (teller) {
-                case 0:
-                    return d;
-                case 1:
-                    return d * d;
-                case 2:
-                    return Math.min(d % 12, 12 - d % 12);
-                default:
-                    return d == 0 ? 0 : 1;
+            int d = apart < 0 ? -apart : apart;
+            if (teller == PLAIN) {
+                return d;
             }
+            if (teller == STRICT) {
+                return d * d;
+            }
+            if (teller == OF_OCTAVES) {
+                int left = d % OCTAVE;
+                return left <= OCTAVE - left ? left : OCTAVE - left;
+            }
+            return d == 0 ? 0 : 1;
         }
     }
 
@@ -975,18 +981,17 @@ public final class SlowTunes {
     private static final class Grid {
         private final int[] cells = new int[MOST_NOTES * MOST_NOTES];
 
-        private static int indexOf(int row, int column) {
-            return column < 0 || column >= MOST_NOTES ? -1 : row * MOST_NOTES + column;
-        }
-
+        /** FAR, where there is no cell. */
         int at(int row, int column) {
-            int index = indexOf(row, column);
-            return index < 0 || index >= cells.length ? FAR : cells[index];
+            int index = row * MOST_NOTES + column;
+            boolean isInRow = column >= 0 && column < MOST_NOTES;
+            return isInRow && index >= 0 && index < cells.length ? cells[index] : FAR;
         }
 
         void put(int row, int column, int value) {
-            int index = indexOf(row, column);
-            if (index >= 0 && index < cells.length) {
+            int index = row * MOST_NOTES + column;
+            boolean isInRow = column >= 0 && column < MOST_NOTES;
+            if (isInRow && index >= 0 && index < cells.length) {
                 cells[index] = value;
             }
         }
@@ -1051,6 +1056,7 @@ public final class SlowTunes {
     private static final class Matches {
         private final Grid fromBegin = new Grid();
         private final Grid fromEnd = new Grid();
+        private final Grid firstSteps = new Grid();
         private final Grid counts = new Grid();
         private final int[] zeroNotes = new int[MOST_PAIRS];
         private final int[] oneNotes = new int[MOST_PAIRS];
@@ -1063,8 +1069,9 @@ public final class SlowTunes {
         void find(State state) {
             fromBegin.tellFromBegin(state, 0, state.farthest);
             fromEnd.tellFromEnd(state);
+            tellSteps(state);
             walkFirst(state);
-            number = state.hasMatch() ? countAll(state) : 0;
+            number = state.hasMatch() ? counts.at(0, 0) : 0;
         }
 
         int leastTo(int first, int second) {
@@ -1101,6 +1108,39 @@ public final class SlowTunes {
             return length <= 0 ? 0.0 : (double) (length - held) / (double) length;
         }
 
+        /** For each pair: the first step of a best row of pairs from there to the end, and how many such rows. */
+        private void tellSteps(State state) {
+            for (int first = state.zero.length - 1; first >= 0; first--) {
+                for (int second = state.one.length - 1; second >= 0; second--) {
+                    int firstStep = NO_STEP;
+                    int count = state.isLastPair(first, second) ? 1 : 0;
+                    for (int step = ONLY_ONE; step >= BOTH; step--) {
+                        if (isBestStep(state, first, second, step)) {
+                            firstStep = step;
+                            count += counts.at(firstAfter(first, step), secondAfter(second, step));
+                        }
+                    }
+                    firstSteps.put(first, second, firstStep);
+                    counts.put(first, second, Math.min(MOST_COUNTED, count));
+                }
+            }
+        }
+
+        private boolean isBestStep(State state, int first, int second, int step) {
+            int behind = fromEnd.at(firstAfter(first, step), secondAfter(second, step));
+            int price = step == BOTH ? 0 : state.price;
+            return behind < FAR
+                    && fromEnd.at(first, second) == state.difference(first, second) + price + behind;
+        }
+
+        private static int firstAfter(int first, int step) {
+            return step == BOTH || step == ONLY_ZERO ? first + 1 : first;
+        }
+
+        private static int secondAfter(int second, int step) {
+            return step == BOTH || step == ONLY_ONE ? second + 1 : second;
+        }
+
         private void walkFirst(State state) {
             length = 0;
             held = 0;
@@ -1109,9 +1149,9 @@ public final class SlowTunes {
             int first = 0;
             int second = 0;
             boolean goesOn = state.hasMatch();
-            while (goesOn && length < MOST_PAIRS) {
+            for (int pair = 0; pair < MOST_PAIRS && goesOn; pair++) {
                 addPair(first, second);
-                int step = firstBestStep(state, first, second);
+                int step = firstSteps.at(first, second);
                 goesOn = step != NO_STEP;
                 if (step == ONLY_ZERO || step == ONLY_ONE) {
                     held++;
@@ -1133,54 +1173,6 @@ public final class SlowTunes {
             if (second >= 0 && second < oneStretches.length) {
                 oneStretches[second]++;
             }
-        }
-
-        private int firstBestStep(State state, int first, int second) {
-            for (int step = BOTH; step <= ONLY_ONE; step++) {
-                if (isBestStep(state, first, second, step)) {
-                    return step;
-                }
-            }
-            return NO_STEP;
-        }
-
-        private boolean isBestStep(State state, int first, int second, int step) {
-            int behind = fromEnd.at(firstAfter(first, step), secondAfter(second, step));
-            int price = step == BOTH ? 0 : state.price;
-            return behind < FAR
-                    && fromEnd.at(first, second) == state.difference(first, second) + price + behind;
-        }
-
-        private static int firstAfter(int first, int step) {
-            return step == BOTH || step == ONLY_ZERO ? first + 1 : first;
-        }
-
-        private static int secondAfter(int second, int step) {
-            return step == BOTH || step == ONLY_ONE ? second + 1 : second;
-        }
-
-        private int countAll(State state) {
-            for (int first = state.zero.length - 1; first >= 0; first--) {
-                for (int second = state.one.length - 1; second >= 0; second--) {
-                    if (fromEnd.at(first, second) < FAR) {
-                        counts.put(first, second, countFrom(state, first, second));
-                    }
-                }
-            }
-            return counts.at(0, 0);
-        }
-
-        private int countFrom(State state, int first, int second) {
-            if (state.isLastPair(first, second)) {
-                return 1;
-            }
-            int sum = 0;
-            for (int step = BOTH; step <= ONLY_ONE; step++) {
-                if (isBestStep(state, first, second, step)) {
-                    sum += counts.at(firstAfter(first, step), secondAfter(second, step));
-                }
-            }
-            return Math.min(MOST_COUNTED, sum);
         }
     }
 

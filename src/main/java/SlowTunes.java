@@ -1187,8 +1187,6 @@ public final class SlowTunes {
         private int latestBegin = NOTHING;
 
         void find(State state) {
-            costs.clear();
-            begins.clear();
             for (int row = 0; row < state.zero.length; row++) {
                 for (int column = 0; column < state.one.length; column++) {
                     tellCell(state, row, column);
@@ -1212,7 +1210,7 @@ public final class SlowTunes {
 
         /** Of rows of pairs with the least cost to the same pair, the one that begins later is as good and better. */
         private void consider(int cost, int begin) {
-            if (cost < leastBefore || cost == leastBefore && cost < FAR && begin > latestBegin) {
+            if (cost < leastBefore || cost == leastBefore && begin > latestBegin) {
                 leastBefore = cost;
                 latestBegin = begin;
             }

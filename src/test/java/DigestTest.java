@@ -65,7 +65,8 @@ public final class DigestTest {
                 int more = Math.max(zero, one);
                 CHECKS.sameShare("evenShare() of " + zero + " and " + one,
                         tunes.evenShare(), (double) Math.min(zero, one) / more);
-                if (zero <= 3 || one == 20) {
+                // An object is promised for 512 calls, and each pair of notes takes one.
+                if (zero <= 3 || one == 20 && zero <= 9) {
                     sameDigest(zero + " and " + one, tunes);
                 }
             }

@@ -6,6 +6,7 @@ public final class PartsTest {
 
     public static void main(String[] args) {
         empty();
+        eachCallAlone();
         inside();
         ties();
         noBound();
@@ -21,6 +22,25 @@ public final class PartsTest {
             CHECKS.refused("partBegin()", tunes, Checks.BAD_STATE, () -> tunes.partBegin());
             CHECKS.refused("partEnd()", tunes, Checks.BAD_STATE, () -> tunes.partEnd());
         }
+    }
+
+    /** No call leans on another one that was made ahead of it. */
+    private static void eachCallAlone() {
+        SlowTunes tunes = Checks.tunesOf(Checks.row(10, 20), Checks.row(50, 10, 20, 50));
+        CHECKS.same("partBegin() first", tunes.partBegin(), 1);
+        tunes.flip(1);
+        tunes.setNote(1, 0, 10);
+        tunes.setNote(1, 1, 20);
+        CHECKS.same("partEnd() behind a change", tunes.partEnd(), 1);
+        tunes.undo();
+        tunes.undo();
+        CHECKS.same("partBegin() behind undo", tunes.partBegin(), 1);
+        tunes.undo();
+        CHECKS.same("partCost() behind undo", tunes.partCost(), 0);
+        SlowTunes other = Checks.tunesOf(Checks.row(10, 20), Checks.row(50, 10, 20, 50));
+        CHECKS.same("partEnd() first", other.partEnd(), 2);
+        other.dropNote(1, 0);
+        CHECKS.same("partBegin() behind a change", other.partBegin(), 0);
     }
 
     private static void samePart(String what, SlowTunes tunes, int cost, int begin, int end) {

@@ -52,6 +52,9 @@ public final class RunsTest {
         Model model = new Model();
         int mostPitch = run % 3 == 0 ? 60 : 2 + run % 7;
         int calls = 0;
+        for (int notes = run % 4 == 1 ? 2 * (run % 21) : 0; calls < notes; calls++) {
+            same(run, tunes, model, "addNote", calls % 2, next(mostPitch + 1));
+        }
         while (calls < CALLS) {
             if (next(12) == 0) {
                 String text = someText();

@@ -71,6 +71,8 @@ public final class WouldBeTest {
         CHECKS.same("bestShift()", tunes.bestShift(), 5);
         tunes.exchange();
         CHECKS.same("bestShift(), exchanged", tunes.bestShift(), -5);
+        CHECKS.same("bestShift() 1", Checks.tunesOf(Checks.row(31), Checks.row(30)).bestShift(), 1);
+        CHECKS.same("bestShift() -1", Checks.tunesOf(Checks.row(30), Checks.row(31)).bestShift(), -1);
         CHECKS.same("bestShift() 12", Checks.tunesOf(Checks.row(30), Checks.row(18)).bestShift(), 12);
         CHECKS.same("bestShift() -12", Checks.tunesOf(Checks.row(30), Checks.row(42)).bestShift(), -12);
         CHECKS.same("bestShift() beyond 12", Checks.tunesOf(Checks.row(60), Checks.row(0)).bestShift(), 12);

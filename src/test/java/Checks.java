@@ -6,12 +6,38 @@ final class Checks {
     static final Class<IllegalArgumentException> BAD_NUMBER = IllegalArgumentException.class;
     static final Class<IllegalStateException> BAD_STATE = IllegalStateException.class;
 
+    /** A call with one number, for tests that give it several. */
+    interface CallWith {
+        long on(int number);
+    }
+
+    /** A call on an object that the test makes. */
+    interface Call {
+        long on(SlowTunes tunes);
+    }
+
     private final String name;
+    private String sentence = "";
+    private int madeAheadOfSentence = 0;
     private int made = 0;
     private int wrong = 0;
 
     Checks(String name) {
         this.name = name;
+    }
+
+    /** The checks behind this call, up to the next one, are for these words of the document. */
+    void sentence(String place, String words) {
+        endSentence();
+        sentence = place + ", \"" + words + "\": ";
+        madeAheadOfSentence = made;
+    }
+
+    /** A sentence that nothing was checked for is a fault of the test. */
+    private void endSentence() {
+        if (!sentence.isEmpty() && made == madeAheadOfSentence) {
+            tell("nothing is checked");
+        }
     }
 
     void same(String what, long got, long due) {
@@ -51,10 +77,11 @@ final class Checks {
 
     private void tell(String text) {
         wrong++;
-        System.out.println(name + ": " + text);
+        System.out.println(name + ": " + sentence + text);
     }
 
     void finish() {
+        endSentence();
         System.out.println(name + ": " + made + " checks, " + wrong + " wrong");
         if (wrong != 0 || made == 0) {
             System.exit(1);
@@ -81,6 +108,14 @@ final class Checks {
     static int[] repeated(int pitch, int times) {
         int[] pitches = new int[times];
         java.util.Arrays.fill(pitches, pitch);
+        return pitches;
+    }
+
+    static int[] rising(int lowest, int length) {
+        int[] pitches = new int[length];
+        for (int note = 0; note < length; note++) {
+            pitches[note] = lowest + note;
+        }
         return pitches;
     }
 

@@ -108,6 +108,12 @@ public final class PartsBoundsTest {
         CHECKS.same("the first note", Checks.tunesOf(Checks.row(10), among(0, 10)).partBegin(), 0);
         CHECKS.same("the last note", Checks.tunesOf(Checks.row(10), among(19, 10)).partBegin(), 19);
         CHECKS.same("the last but one", Checks.tunesOf(Checks.row(10, 11), among(18, 10, 11)).partBegin(), 18);
+        SlowTunes step = Checks.tunesOf(Checks.row(10, 20), Checks.row(10, 11, 20));
+        step.setHold(50);
+        samePart("of a step, another one beginning beside it", step, 1, 1, 2);
+        SlowTunes hold = Checks.tunesOf(Checks.row(10, 40, 10), Checks.row(20, 10, 40, 40, 10));
+        hold.setHold(11);
+        samePart("of a hold, another one beginning beside it", hold, 11, 1, 4);
     }
 
     private static void partEnd() {

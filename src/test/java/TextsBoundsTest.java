@@ -83,13 +83,24 @@ public final class TextsBoundsTest {
         isWrong("sing0:1slow1", 7);
     }
 
+    private static void isLetter(String letters) {
+        for (String word : WORDS) {
+            if (word.startsWith(letters)) {
+                isBegin(letters);
+                return;
+            }
+        }
+        isWrong(letters, letters.length() - 1);
+    }
+
     private static void words() {
         CHECKS.sentence("Input text", "each a word, and what stands behind it");
         for (String word : WORDS) {
             isBegin(word);
             for (int index = 0; index < word.length(); index++) {
-                isBegin(word.substring(0, index));
-                isWrong(word.substring(0, index) + "z", index);
+                for (char letter = 'a'; letter <= 'z'; letter++) {
+                    isLetter(word.substring(0, index) + letter);
+                }
                 isWrong(word.substring(0, index) + Character.toUpperCase(word.charAt(index)), index);
                 isWrong("flip1;" + word.substring(0, index) + ";", index + 6);
             }

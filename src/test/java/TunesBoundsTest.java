@@ -336,6 +336,12 @@ public final class TunesBoundsTest {
         CHECKS.same("higher by 1", Checks.tunesOf(Checks.row(5, 6), NONE).rises(), 1);
         CHECKS.same("lower by 1", Checks.tunesOf(NONE, Checks.row(6, 5)).rises(), 0);
         CHECKS.same("from 0 to 60", Checks.tunesOf(NONE, Checks.row(0, 60)).rises(), 1);
+        SlowTunes dropped = Checks.tunesOf(Checks.row(5, 6), Checks.row(0, 60, 30));
+        dropped.dropNote(0, 1);
+        dropped.dropNote(1, 1);
+        CHECKS.same("a note that is no more", dropped.rises(), 1);
+        dropped.dropNote(1, 1);
+        CHECKS.same("notes that are no more", dropped.rises(), 0);
         SlowTunes full = full();
         CHECKS.same("all of both that can be", full.rises(), 38);
         full.flip(0);

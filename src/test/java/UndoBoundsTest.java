@@ -36,6 +36,8 @@ public final class UndoBoundsTest {
         int saved = tunes.savedStates();
         call.on(tunes);
         CHECKS.same(what + ": savedStates()", tunes.savedStates(), saved + 1);
+        // With this look the object knows the matches of the state that is undone.
+        tunes.digest();
         CHECKS.same(what + ": undo()", tunes.undo(), saved);
         CHECKS.same(what + ": digest() undone", tunes.digest(), before);
     }
@@ -99,6 +101,16 @@ public final class UndoBoundsTest {
         tunes.whyStopped();
         tunes.keep();
         CHECKS.same("texts and keep() save nothing", tunes.savedStates(), 4);
+        everyLook(tunes);
+        CHECKS.sentence("Undo", "Each method that is marked \"undoable\"");
+        CHECKS.same("looks save nothing", tunes.savedStates(), 4);
+        CHECKS.same("undo() undoes the latest work()", tunes.undo(), 3);
+        CHECKS.sameTune("undone", tunes, 0, 5, 9);
+    }
+
+    private static void everyLook(SlowTunes tunes) {
+        CHECKS.sentence("The public face", "looks at tunes; what would be; nothing is changed");
+        long before = tunes.digest();
         tunes.notes(0);
         tunes.pitch(0, 0);
         tunes.bound();
@@ -124,10 +136,7 @@ public final class UndoBoundsTest {
         tunes.costWithBound(0);
         tunes.neededBound();
         tunes.evenShare();
-        tunes.digest();
-        CHECKS.same("looks save nothing", tunes.savedStates(), 4);
-        CHECKS.same("undo() undoes the latest work()", tunes.undo(), 3);
-        CHECKS.sameTune("undone", tunes, 0, 5, 9);
+        CHECKS.same("digest() behind every look", tunes.digest(), before);
     }
 
     private static void whatIsSaved() {

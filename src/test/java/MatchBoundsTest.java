@@ -12,6 +12,7 @@ public final class MatchBoundsTest {
         firstOfTwoSteps();
         isMatched();
         cost();
+        oneNoteUnlikeAll();
         costTo();
         costToWithoutMatch();
         pairs();
@@ -196,6 +197,28 @@ public final class MatchBoundsTest {
         CHECKS.sentence("Promise 32", "Throws IllegalStateException if there is no match");
         for (SlowTunes tunes : unmatched()) {
             CHECKS.refused("costFromEnd()", tunes, Checks.BAD_STATE, () -> tunes.costFromEnd());
+        }
+    }
+
+    /** A note that is like no other is in a pair of each match, also where the other tune is held at its first or last note. */
+    private static void oneNoteUnlikeAll() {
+        CHECKS.sentence("Matches", "only the tune 0 does (the note of the tune 1 is held), or only the tune 1 does");
+        for (int length : Checks.row(18, 19, 20)) {
+            for (int place = 0; place < length; place++) {
+                int[] zero = Checks.repeated(0, length);
+                zero[place] = 60;
+                SlowTunes tunes = Checks.tunesOf(zero, Checks.repeated(0, 20));
+                tunes.setHold(0);
+                String what = " of the note " + place + " of " + length;
+                CHECKS.same("cost()" + what, tunes.cost(), 60);
+                CHECKS.same("costFromEnd()" + what, tunes.costFromEnd(), 60);
+                CHECKS.same("pairs()" + what, tunes.pairs(), 20);
+                CHECKS.same("partCost()" + what, tunes.partCost(), 60);
+                tunes.exchange();
+                CHECKS.same("cost() exchanged" + what, tunes.cost(), 60);
+                CHECKS.same("costFromEnd() exchanged" + what, tunes.costFromEnd(), 60);
+                CHECKS.same("pairs() exchanged" + what, tunes.pairs(), 20);
+            }
         }
     }
 
